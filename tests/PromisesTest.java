@@ -12,6 +12,7 @@ public final class PromisesTest {
         promise4Load();
         promise5Turn();
         promise6Fuse();
+        promise6FuseFurtherDown();
         promise7Pass();
         promise7HeatAndCooling();
         promise7Creeping();
@@ -33,6 +34,7 @@ public final class PromisesTest {
         promise20OrderThatFails();
         promise21Undo();
         promise21EachChangeRecords();
+        promise21EachChangeIsUndone();
         promise22Save();
         promise23Restore();
         Due.end();
@@ -192,6 +194,38 @@ public final class PromisesTest {
         Due.is("6: what blew stays told", y.of(0, 11), 1);
     }
 
+    private static void promise6FuseFurtherDown() {
+        FuseBoards x = new FuseBoards();
+        x.set(ARC, 2);
+        x.set(AGE, 3);
+        x.board(0, 100, SLOW);
+        x.board(0, 20, OLD);
+        x.board(1, 10, OLD);
+        x.load(2, 11);
+        x.turn(0);
+        x.pass(5);
+        Due.is("6: heat", x.of(2, 5), 105);
+        Due.is("6: age", x.of(2, 7), 1);
+        Due.is("6: melting heat by age", x.of(2, 6), 1800);
+        Due.is("6: the age of what feeds it", x.of(1, 7), 1);
+        Due.is("6: the rating that was", x.fuse(2, 9, OLD), 10);
+        Due.is("6: cold", x.of(2, 5), 0);
+        Due.is("6: as new", x.of(2, 7), 0);
+        Due.is("6: rating", x.of(2, 1), 9);
+        x.pass(2);
+        Due.is("6: creeps from 0", x.of(2, 7), 0);
+        Due.is("6: the other one goes on", x.of(1, 7), 2);
+        x.load(2, 200);
+        x.turn(1);
+        Due.is("6: blow", x.pass(1), 1);
+        Due.is("6: burns", x.fuse(2, 9, OLD), NOT_POSSIBLE);
+        x.pass(1);
+        Due.is("6: for one tick yet", x.of(2, 10), 1);
+        Due.is("6: which is enough", x.fuse(2, 9, OLD), NOT_POSSIBLE);
+        x.pass(1);
+        Due.is("6: open", x.fuse(2, 9, OLD), 9);
+    }
+
     private static void promise7Pass() {
         FuseBoards x = new FuseBoards();
         for (int ticks : new int[] {0, -1, 100, LOW, HIGH}) Due.is("7: ticks " + ticks, x.pass(ticks), BAD_VALUE);
@@ -234,6 +268,22 @@ public final class PromisesTest {
         Due.is("7: 38 * 21", x.of(0, 5), 798);
         Due.is("7: blows", x.pass(1), 1);
         Due.is("7: as it blew", x.of(0, 5), 819);
+
+        FuseBoards below = new FuseBoards();
+        below.board(0, 100, SLOW);
+        below.board(0, 50, SLOW);
+        below.load(1, 60);
+        below.turn(0);
+        below.pass(3);
+        Due.is("7: three times 1100", below.of(1, 5), 3300);
+        below.turn(0);
+        below.pass(1);
+        Due.is("7: 2500 / 2 less", below.of(1, 5), 2050);
+        below.set(COOL, 1);
+        below.load(1, 40);
+        below.turn(1);
+        below.pass(1);
+        Due.is("7: 900 / 1 less", below.of(1, 5), 1150);
 
         FuseBoards just = lone(1, QUICK, 3);
         Due.is("7: a heat of the melting heat is enough", just.pass(1), 1);
@@ -427,6 +477,21 @@ public final class PromisesTest {
         Due.is("9: but works no more", x.ofLoad(0, 3), 0);
     }
 
+    /** A house whose only open fuse is that of the board 0, which feeds 1, which feeds 2. */
+    private static FuseBoards openAtTheTop() {
+        FuseBoards x = new FuseBoards();
+        x.set(ARC, 0);
+        x.board(0, 1, QUICK);
+        x.board(0, 100, SLOW);
+        x.board(1, 100, SLOW);
+        for (int b = 0; b < 3; b++) {
+            x.load(b, 2 + b);
+            x.turn(b);
+        }
+        x.pass(1);
+        return x;
+    }
+
     private static void promise10Fed() {
         FuseBoards x = new FuseBoards();
         Due.is("10: without boards", x.fed(0), NO_SUCH);
@@ -485,6 +550,14 @@ public final class PromisesTest {
         x.fuse(2, 9, SLOW);
         int[] after = {5, 4, 3, 6, 0, 2, 1, 3, 0, 3, 4, 5, 3, 6};
         for (int what = 0; what < 14; what++) Due.is("12: later count(" + what + ")", x.count(what), after[what]);
+        FuseBoards top = openAtTheTop();
+        Due.is("12: one is open", top.count(5), 1);
+        Due.is("12: all are dead", top.count(3), 7);
+        Due.is("12: none works", top.count(4), 0);
+        top.fuse(0, 50, SLOW);
+        Due.is("12: none is dead", top.count(3), 0);
+        Due.is("12: all work", top.count(4), 7);
+        Due.is("12: the current of the board 0", top.count(8), 9);
         Due.is("12: what -1", x.count(-1), BAD_VALUE);
         Due.is("12: what 14", x.count(14), BAD_VALUE);
         Due.is("12: what LOW", x.count(LOW), BAD_VALUE);
@@ -581,6 +654,8 @@ public final class PromisesTest {
         FuseBoards far = new FuseBoards();
         far.board(0, 100, SLOW);
         Due.is("14: not within 200", far.test(0, 101, 0), NONE);
+        // By 3 a tick from just 0 to 40: at 39 in the tick 13.
+        Due.is("14: from a heat of 0", lone(1, SLOW, 3).test(0, 2, 0), 14);
         // By 109 * 109 - 10000 = 1881 a tick: in the tick 213; by 110 * 110 - 10000 = 2100: in the tick 191.
         Due.is("14: 213", far.test(0, 109, 0), NONE);
         Due.is("14: 191", far.test(0, 110, 0), 191);
@@ -740,9 +815,15 @@ public final class PromisesTest {
         Due.is("20: its board", x.ofLoad(1, 0), 0);
         Due.is("20: its current", x.ofLoad(1, 1), 200);
         Due.is("20: heat", x.of(2, 5), 3 * 44);
+        type(x, "f0.1q");
+        Due.is("20: a quick one", x.carryOut(), 1);
+        Due.is("20: its kind", x.of(0, 2), QUICK);
+        x.undo();
+        Due.is("20: the kind that was", x.of(0, 2), SLOW);
         Due.is("20: undo of all", x.undo(), 0);
         Due.is("20: no boards", x.count(1), 0);
         Due.is("20: no time", x.count(0), 0);
+        Due.is("20: the settings stand", x.count(11), 10);
     }
 
     private static void promise20OrderThatFails() {
@@ -860,6 +941,42 @@ public final class PromisesTest {
         Due.is("21: counts", x.count(13), 2);
         x.undo();
         Due.is("21: and can be undone", x.count(0), 0);
+    }
+
+    private static void promise21EachChangeIsUndone() {
+        FuseBoards x = lone(10, QUICK, 5);
+        x.save(1);
+        x.set(COOL, 7);
+        x.undo();
+        Due.is("21: set", x.count(10), 2);
+        x.board(0, 9, SLOW);
+        x.undo();
+        Due.is("21: board", x.count(1), 1);
+        x.load(0, 9);
+        x.undo();
+        Due.is("21: load", x.count(2), 1);
+        x.turn(0);
+        x.undo();
+        Due.is("21: turn", x.of(0, 4), 5);
+        x.fuse(0, 9, SLOW);
+        x.undo();
+        Due.is("21: fuse, its rating", x.of(0, 1), 10);
+        Due.is("21: fuse, its kind", x.of(0, 2), QUICK);
+        x.pass(9);
+        x.undo();
+        Due.is("21: pass", x.count(0), 0);
+        x.pass(4);
+        x.restore(1);
+        x.undo();
+        Due.is("21: restore", x.count(0), 4);
+        type(x, "t9;s0");
+        x.carryOut();
+        x.undo();
+        Due.is("21: carryOut, the time", x.count(0), 4);
+        Due.is("21: carryOut, the load", x.ofLoad(0, 2), 1);
+        for (int left = 3; left >= 0; left--) Due.is("21: what came before", x.undo(), left);
+        Due.is("21: back to the settings at first", x.count(9), 1);
+        Due.is("21: without boards", x.count(1), 0);
     }
 
     private static void promise22Save() {
