@@ -2,8 +2,10 @@ import java.util.Random;
 
 /** Random runs of calls, of which each answer has to be that of PlainModel. */
 public final class AgainstModelTest {
-    private static final int RUNS = 1500;
-    private static final int CALLS = 512;
+    private static final int RUNS = 2500;
+    private static final int LOOK_CALLS = 14 + 10 * (12 + 3) + 14;
+    // An object has 512 calls; some of them are left for the look at its end.
+    private static final int CALLS = 512 - LOOK_CALLS;
     private static final String[] NAMES = {"set", "board", "load", "turn", "fuse", "pass", "of", "ofLoad", "fed",
         "blown", "count", "next", "test", "unfair", "ifOpen", "put", "wipe", "fault", "carryOut", "undo", "save", "restore"};
     private static final int SET = 0, BOARD = 1, LOAD = 2, TURN = 3, FUSE = 4, PASS = 5, OF = 6, OF_LOAD = 7, FED = 8,
@@ -38,9 +40,9 @@ public final class AgainstModelTest {
             int got = call(method, a, b, c, characters);
             Due.is("run " + run + ", call " + i + ": " + NAMES[method] + " of " + a + ", " + b + ", " + c + ", "
                 + characters, got, due);
-            if (got != due || i % 64 == 63 && !looksTheSame(run, i)) return false;
+            if (got != due) return false;
         }
-        return true;
+        return looksTheSame(run);
     }
 
     /** Building at first; then what the run is mostly about, and now and then anything. */
@@ -123,21 +125,21 @@ public final class AgainstModelTest {
         }
     }
 
-    private boolean looksTheSame(int run, int i) {
+    private boolean looksTheSame(int run) {
         boolean same = true;
-        for (int what = 0; what < 14; what++) same &= asked(run, i, COUNT, what, 0);
+        for (int what = 0; what < 14; what++) same &= asked(run, COUNT, what, 0);
         for (int board = 0; board < 10; board++) {
-            for (int what = 0; what < 12; what++) same &= asked(run, i, OF, board, what);
-            same &= asked(run, i, FED, board, 0) & asked(run, i, BLOWN, board, 0) & asked(run, i, IF_OPEN, board, 0);
+            for (int what = 0; what < 12; what++) same &= asked(run, OF, board, what);
+            same &= asked(run, FED, board, 0) & asked(run, BLOWN, board, 0) & asked(run, IF_OPEN, board, 0);
         }
-        for (int load = 0; load < 14; load++) same &= asked(run, i, OF_LOAD, load, 3);
+        for (int load = 0; load < 14; load++) same &= asked(run, OF_LOAD, load, 3);
         return same;
     }
 
-    private boolean asked(int run, int i, int method, int a, int b) {
+    private boolean asked(int run, int method, int a, int b) {
         int due = model.call(method, a, b, 0, 0);
         int got = call(method, a, b, 0, 0);
-        Due.is("run " + run + ", after call " + i + ": " + NAMES[method] + " of " + a + ", " + b, got, due);
+        Due.is("run " + run + ", at its end: " + NAMES[method] + " of " + a + ", " + b, got, due);
         return got == due;
     }
 

@@ -44,17 +44,17 @@ public final class FaceTest {
         Constructor<?>[] made = FuseBoards.class.getDeclaredConstructors();
         Due.is("constructors", made.length, 1);
         Due.isTrue("the constructor is public", Modifier.isPublic(made[0].getModifiers()));
-        noHiddenMethodBearsOneOf(names, FuseBoards.class);
+        noPrivateMethodBearsOneOf(names, FuseBoards.class);
         for (Class<?> inside : FuseBoards.class.getDeclaredClasses()) {
             Due.isTrue(inside + " is static", Modifier.isStatic(inside.getModifiers()));
             Due.isTrue(inside + " is hidden", !Modifier.isPublic(inside.getModifiers()));
-            noHiddenMethodBearsOneOf(names, inside);
+            noPrivateMethodBearsOneOf(names, inside);
         }
     }
 
-    private static void noHiddenMethodBearsOneOf(Set<String> names, Class<?> owner) {
+    private static void noPrivateMethodBearsOneOf(Set<String> names, Class<?> owner) {
         for (Method m : owner.getDeclaredMethods()) {
-            if (Modifier.isPublic(m.getModifiers())) continue;
+            if (!Modifier.isPrivate(m.getModifiers())) continue;
             Due.isTrue(m + " bears no public name", !names.contains(m.getName()));
         }
     }
@@ -72,18 +72,22 @@ public final class FaceTest {
 
     private static void textKeepsTheRules() throws Exception {
         String text = Files.readString(Path.of("src/main/java/FuseBoards.java"));
-        String code = text.replaceAll("(?s)/\\*.*?\\*/", " ").replaceAll("//[^\n]*", " ");
+        String code = text.replaceAll("(?s)/\\*.*?\\*/", " ").replaceAll("//[^\n]*", " ")
+            .replaceAll("\"(\\\\.|[^\"\\\\\n])*\"", " ");
         String[] ruledOut = {"throw", "throws", "try", "catch", "synchronized", "assert", "package", "protected",
-            "record", "Object", "Random", "currentTimeMillis", "nanoTime", "File", "Thread", "var"};
+            "Object", "Random", "System.in", "System.out", "System.err", "currentTimeMillis", "nanoTime", "File", "Thread"};
         for (String word : ruledOut) {
             Due.isTrue("no " + word, !Pattern.compile("\\b" + word + "\\b").matcher(code).find());
         }
-        Due.isTrue("no lambda", !code.contains("->"));
+        String withoutArrowsOfSwitches = code.replaceAll("\\b(case [^;{}>]*|default\\s*)->", " ");
+        Due.isTrue("no lambda", !withoutArrowsOfSwitches.contains("->"));
         Due.isTrue("no method reference", !code.contains("::"));
-        Due.isTrue("no package line", !code.trim().startsWith("package"));
+        Set<String> imports = Set.of("Arrays", "ArrayList", "List", "Iterator");
         for (String line : code.split("\n")) {
             String plain = line.trim();
-            Due.isTrue("import " + plain, !plain.startsWith("import") || plain.equals("import java.util.Arrays;"));
+            if (!plain.startsWith("import ")) continue;
+            String name = plain.replaceAll("import java\\.util\\.(\\w+);", "$1");
+            Due.isTrue(plain, imports.contains(name));
         }
     }
 }

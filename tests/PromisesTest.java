@@ -1,10 +1,5 @@
 /** Each promise of the document with answers worked out by hand: ordinary inputs, edges, wrong inputs. */
-public final class PromisesTest {
-    private static final int NO_SUCH = -1, BAD_VALUE = -2, BAD_TEXT = -3, TOO_MANY = -4, NOT_POSSIBLE = -5, NONE = -6;
-    private static final int ARC = 0, COOL = 1, AGE = 2;
-    private static final int QUICK = 0, SLOW = 1, OLD = 2;
-    private static final int LOW = Integer.MIN_VALUE, HIGH = Integer.MAX_VALUE;
-
+public final class PromisesTest implements Codes {
     public static void main(String[] args) {
         promise1NewObject();
         promise2Set();
@@ -40,28 +35,6 @@ public final class PromisesTest {
         Due.end();
     }
 
-    private static void type(FuseBoards x, String text) {
-        for (int from = 0; from < text.length(); from += 8) {
-            String piece = text.substring(from, Math.min(text.length(), from + 8));
-            Due.isTrue("put of " + piece, x.put(packed(piece)) > 0);
-        }
-    }
-
-    private static long packed(String text) {
-        long packed = 0;
-        for (int i = 0; i < text.length(); i++) packed = packed << 8 | text.charAt(i);
-        return packed;
-    }
-
-    /** A board with one load that is on: the plainest house in which something heats up. */
-    private static FuseBoards lone(int rating, int kind, int current) {
-        FuseBoards x = new FuseBoards();
-        x.board(0, rating, kind);
-        x.load(0, current);
-        x.turn(0);
-        return x;
-    }
-
     private static void promise1NewObject() {
         FuseBoards x = new FuseBoards();
         int[] due = {0, 0, 0, 0, 0, 0, 0, 0, 0, 1, 2, 10, 0, 0};
@@ -88,7 +61,7 @@ public final class PromisesTest {
         for (int s : new int[] {-1, 3, LOW, HIGH}) Due.is("2: setting " + s, x.set(s, 1), BAD_VALUE);
         Due.is("2: six changes", x.count(13), 6);
 
-        FuseBoards burns = lone(1, QUICK, 200);
+        FuseBoards burns = Houses.lone(1, QUICK, 200);
         burns.set(ARC, 4);
         burns.pass(1);
         burns.set(ARC, 9);
@@ -160,7 +133,7 @@ public final class PromisesTest {
     }
 
     private static void promise6Fuse() {
-        FuseBoards x = lone(10, OLD, 10);
+        FuseBoards x = Houses.lone(10, OLD, 10);
         x.set(AGE, 3);
         x.pass(5);
         Due.is("6: a step older", x.of(0, 7), 1);
@@ -180,7 +153,7 @@ public final class PromisesTest {
         Due.is("6: again", x.fuse(0, 9, OLD), 8);
         Due.is("6: cold", x.of(0, 5), 0);
 
-        FuseBoards y = lone(1, QUICK, 200);
+        FuseBoards y = Houses.lone(1, QUICK, 200);
         y.set(ARC, 2);
         y.pass(1);
         Due.is("6: burns", y.fuse(0, 5, QUICK), NOT_POSSIBLE);
@@ -243,7 +216,7 @@ public final class PromisesTest {
     }
 
     private static void promise7HeatAndCooling() {
-        FuseBoards x = lone(10, QUICK, 11);
+        FuseBoards x = Houses.lone(10, QUICK, 11);
         x.load(0, 10);
         x.load(0, 3);
         x.pass(3);
@@ -285,7 +258,7 @@ public final class PromisesTest {
         below.pass(1);
         Due.is("7: 900 / 1 less", below.of(1, 5), 1150);
 
-        FuseBoards just = lone(1, QUICK, 3);
+        FuseBoards just = Houses.lone(1, QUICK, 3);
         Due.is("7: a heat of the melting heat is enough", just.pass(1), 1);
         Due.is("7: just 8", just.of(0, 5), 8);
 
@@ -301,7 +274,7 @@ public final class PromisesTest {
     }
 
     private static void promise7Creeping() {
-        FuseBoards half = lone(10, OLD, 5);
+        FuseBoards half = Houses.lone(10, OLD, 5);
         half.set(AGE, 1);
         half.pass(5);
         Due.is("7: half its rating is not above", half.of(0, 7), 0);
@@ -312,13 +285,13 @@ public final class PromisesTest {
         Due.is("7: 20 * 10 less for each", half.of(0, 6), 1400);
 
         for (int kind = QUICK; kind <= SLOW; kind++) {
-            FuseBoards other = lone(10, kind, 10);
+            FuseBoards other = Houses.lone(10, kind, 10);
             other.set(AGE, 1);
             other.pass(9);
             Due.is("7: no old one", other.of(0, 7), 0);
         }
 
-        FuseBoards late = lone(10, OLD, 8);
+        FuseBoards late = Houses.lone(10, OLD, 8);
         late.pass(9);
         Due.is("7: nine ticks", late.of(0, 7), 0);
         late.turn(0);
@@ -335,7 +308,7 @@ public final class PromisesTest {
         Due.is("7: three more", late.of(0, 7), 2);
 
         // Its melting heat, 80, is 40 less with each step.
-        FuseBoards aged = lone(2, OLD, 2);
+        FuseBoards aged = Houses.lone(2, OLD, 2);
         aged.set(AGE, 1);
         Due.is("7: cold ones don't go", aged.pass(10), 0);
         Due.is("7: 1 at least", aged.of(0, 6), 1);
@@ -345,7 +318,7 @@ public final class PromisesTest {
         Due.is("7: its heat", aged.of(0, 5), 5);
         Due.is("7: its age", aged.of(0, 7), 11);
 
-        FuseBoards step = lone(1, OLD, 2);
+        FuseBoards step = Houses.lone(1, OLD, 2);
         step.set(AGE, 6);
         // By 3 a tick to 18 in the tick 6, melting at 20; the step of that tick brings it down to 1.
         Due.is("7: five ticks", step.pass(5), 0);
@@ -542,7 +515,7 @@ public final class PromisesTest {
         x.set(ARC, 3);
         x.set(COOL, 4);
         x.set(AGE, 5);
-        type(x, "abc");
+        Houses.type(x, "abc");
         x.pass(2);
         int[] before = {2, 4, 3, 0, 5, 0, 6, 2, 250, 3, 4, 5, 3, 6};
         for (int what = 0; what < 14; what++) Due.is("12: count(" + what + ")", x.count(what), before[what]);
@@ -570,7 +543,7 @@ public final class PromisesTest {
         Due.is("13: bad goes first", none.next(2), BAD_VALUE);
         Due.is("13: what -1", none.next(-1), BAD_VALUE);
 
-        FuseBoards x = lone(10, QUICK, 11);
+        FuseBoards x = Houses.lone(10, QUICK, 11);
         Due.is("13: 39 ticks", x.next(0), 39);
         x.pass(38);
         Due.is("13: the tick itself is one", x.next(0), 1);
@@ -579,11 +552,11 @@ public final class PromisesTest {
         Due.is("13: nor the history", x.count(13), 4);
 
         // 31 * 31 - 30 * 30 = 61 a tick, to 40 * 900 = 36000: far more than 200 ticks.
-        FuseBoards slow = lone(30, SLOW, 31);
+        FuseBoards slow = Houses.lone(30, SLOW, 31);
         Due.is("13: none within 200", slow.next(0), NONE);
         Due.is("13: nor a board", slow.next(1), NONE);
         // 20 * 20 * 40 = 16000, by 21 * 21 - 20 * 20 = 41 a tick: in the tick 391.
-        FuseBoards edge = lone(20, SLOW, 21);
+        FuseBoards edge = Houses.lone(20, SLOW, 21);
         edge.pass(99);
         edge.pass(91);
         Due.is("13: 201 ticks are too many", edge.next(0), NONE);
@@ -643,7 +616,7 @@ public final class PromisesTest {
         Due.is("14: loads are off in it", full.test(0, 10, 0), NONE);
 
         // An old fuse keeps its age, and what it has crept.
-        FuseBoards aged = lone(2, OLD, 2);
+        FuseBoards aged = Houses.lone(2, OLD, 2);
         aged.set(AGE, 2);
         // By 5 a tick, melting at 80, at 40 from the tick 2 on, and at 1 in the tick 4.
         Due.is("14: a new one", aged.test(0, 3, 0), 4);
@@ -655,7 +628,7 @@ public final class PromisesTest {
         far.board(0, 100, SLOW);
         Due.is("14: not within 200", far.test(0, 101, 0), NONE);
         // By 3 a tick from just 0 to 40: at 39 in the tick 13.
-        Due.is("14: from a heat of 0", lone(1, SLOW, 3).test(0, 2, 0), 14);
+        Due.is("14: from a heat of 0", Houses.lone(1, SLOW, 3).test(0, 2, 0), 14);
         // By 109 * 109 - 10000 = 1881 a tick: in the tick 213; by 110 * 110 - 10000 = 2100: in the tick 191.
         Due.is("14: 213", far.test(0, 109, 0), NONE);
         Due.is("14: 191", far.test(0, 110, 0), 191);
@@ -730,23 +703,23 @@ public final class PromisesTest {
         Due.is("17: only above a gap", x.put(0x7400L), BAD_VALUE);
         Due.is("17: far above a gap", x.put(0x7400000000000031L), BAD_VALUE);
         Due.is("17: the highest bit", x.put(Long.MIN_VALUE), BAD_VALUE);
-        Due.is("17: a bad one among them", x.put(packed("t 1")), BAD_VALUE);
-        Due.is("17: a bad first one of eight", x.put(packed("\u00e91234567")), BAD_VALUE);
+        Due.is("17: a bad one among them", x.put(Houses.packed("t 1")), BAD_VALUE);
+        Due.is("17: a bad first one of eight", x.put(Houses.packed("\u00e91234567")), BAD_VALUE);
         Due.is("17: nothing stands", x.count(12), 0);
         Due.is("17: code 33", x.put(33), 1);
         Due.is("17: code 126", x.put(126), 2);
-        Due.is("17: eight", x.put(packed("~!345678")), 10);
-        for (int length = 18; length <= 74; length += 8) Due.is("17: more", x.put(packed("12345678")), length);
-        Due.is("17: 81", x.put(packed("1234567")), TOO_MANY);
-        Due.is("17: bad goes first", x.put(packed("123456 ")), BAD_VALUE);
-        Due.is("17: 80", x.put(packed("123456")), 80);
-        Due.is("17: full", x.put(packed("1")), TOO_MANY);
+        Due.is("17: eight", x.put(Houses.packed("~!345678")), 10);
+        for (int length = 18; length <= 74; length += 8) Due.is("17: more", x.put(Houses.packed("12345678")), length);
+        Due.is("17: 81", x.put(Houses.packed("1234567")), TOO_MANY);
+        Due.is("17: bad goes first", x.put(Houses.packed("123456 ")), BAD_VALUE);
+        Due.is("17: 80", x.put(Houses.packed("123456")), 80);
+        Due.is("17: full", x.put(Houses.packed("1")), TOO_MANY);
         Due.is("17: length", x.count(12), 80);
         Due.is("17: no change", x.count(13), 0);
 
         FuseBoards order = new FuseBoards();
-        order.put(packed("t1"));
-        order.put(packed("2;t34"));
+        order.put(Houses.packed("t1"));
+        order.put(Houses.packed("2;t34"));
         order.carryOut();
         Due.is("17: in their order, behind what stood", order.count(0), 46);
     }
@@ -754,18 +727,18 @@ public final class PromisesTest {
     private static void promise18Wipe() {
         FuseBoards x = new FuseBoards();
         Due.is("18: empty", x.wipe(), 0);
-        type(x, "t12345");
+        Houses.type(x, "t12345");
         Due.is("18: the length that it had", x.wipe(), 6);
         Due.is("18: length now", x.count(12), 0);
         Due.is("18: again", x.wipe(), 0);
         Due.is("18: no change", x.count(13), 0);
-        type(x, "t1");
+        Houses.type(x, "t1");
         Due.is("18: anew", x.fault(), NONE);
     }
 
     private static int faultOf(String text) {
         FuseBoards x = new FuseBoards();
-        type(x, text);
+        Houses.type(x, text);
         return x.fault();
     }
 
@@ -791,7 +764,7 @@ public final class PromisesTest {
         full.setCharAt(79, ';');
         Due.is("19: the last of 80", faultOf(full.toString()), 79);
         FuseBoards x = new FuseBoards();
-        type(x, "t5x");
+        Houses.type(x, "t5x");
         x.fault();
         Due.is("19: nothing changed", x.wipe(), 3);
     }
@@ -799,7 +772,7 @@ public final class PromisesTest {
     private static void promise20CarryOut() {
         FuseBoards x = new FuseBoards();
         Due.is("20: empty", x.carryOut(), BAD_TEXT);
-        type(x, "b7.40s;b0.16q;b1.10o;l2=12;l0=200;s0;s1;s1;f1.9o;t3");
+        Houses.type(x, "b7.40s;b0.16q;b1.10o;l2=12;l0=200;s0;s1;s1;f1.9o;t3");
         Due.is("20: ten orders", x.carryOut(), 10);
         Due.is("20: the pad is empty", x.count(12), 0);
         Due.is("20: one change", x.count(13), 1);
@@ -815,7 +788,7 @@ public final class PromisesTest {
         Due.is("20: its board", x.ofLoad(1, 0), 0);
         Due.is("20: its current", x.ofLoad(1, 1), 200);
         Due.is("20: heat", x.of(2, 5), 3 * 44);
-        type(x, "f0.1q");
+        Houses.type(x, "f0.1q");
         Due.is("20: a quick one", x.carryOut(), 1);
         Due.is("20: its kind", x.of(0, 2), QUICK);
         x.undo();
@@ -828,32 +801,32 @@ public final class PromisesTest {
 
     private static void promise20OrderThatFails() {
         FuseBoards x = new FuseBoards();
-        type(x, "t5;");
+        Houses.type(x, "t5;");
         Due.is("20: a fault", x.carryOut(), BAD_TEXT);
         Due.is("20: the pad stays", x.count(12), 3);
         Due.is("20: nothing recorded", x.count(13), 0);
         Due.is("20: nothing passed", x.count(0), 0);
-        type(x, "s0;t5");
+        Houses.type(x, "s0;t5");
         Due.is("20: up to the first that fails", x.carryOut(), 1);
         Due.is("20: no order behind it", x.count(0), 5);
         Due.is("20: the pad is empty", x.count(12), 0);
         String[] failing = {"t0", "t100", "s0", "l0=5", "f0.5q", "b0.0q", "b0.101q"};
         for (String text : failing) {
             x.wipe();
-            type(x, text);
+            Houses.type(x, text);
             Due.is("20: none of " + text, x.carryOut(), 0);
         }
         Due.is("20: recorded all the same", x.count(13), 6);
         Due.is("20: nothing came", x.count(1), 0);
 
         FuseBoards many = new FuseBoards();
-        type(many, "b0.1q;b0.1q;b0.1q;b0.1q;b0.1q;b0.1q;b0.1q;b0.1q;b0.1q;b0.1q;b0.1q;t1");
+        Houses.type(many, "b0.1q;b0.1q;b0.1q;b0.1q;b0.1q;b0.1q;b0.1q;b0.1q;b0.1q;b0.1q;b0.1q;t1");
         Due.is("20: ten of eleven boards", many.carryOut(), 10);
         Due.is("20: ten boards", many.count(1), 10);
         Due.is("20: no tick", many.count(0), 0);
 
         FuseBoards full = new FuseBoards();
-        type(full, "t1;t1;t1;t1;t1;t1;t1;t1;t1;t1;t1;t1;t1;t1;t1;t1;t1;t1;t1;t1;t1;t1;t1;t1;t1;t1;t1");
+        Houses.type(full, "t1;t1;t1;t1;t1;t1;t1;t1;t1;t1;t1;t1;t1;t1;t1;t1;t1;t1;t1;t1;t1;t1;t1;t1;t1;t1;t1");
         Due.is("20: 27 orders", full.carryOut(), 27);
         Due.is("20: 27 ticks", full.count(0), 27);
     }
@@ -870,11 +843,11 @@ public final class PromisesTest {
         Due.is("21: none left", x.undo(), NOT_POSSIBLE);
         Due.is("21: the oldest were dropped", x.count(0), 3);
 
-        FuseBoards all = lone(2, OLD, 3);
+        FuseBoards all = Houses.lone(2, OLD, 3);
         all.set(AGE, 1);
         all.pass(1);
         all.save(0);
-        type(all, "t1");
+        Houses.type(all, "t1");
         all.set(ARC, 5);
         all.pass(3);
         all.fuse(0, 50, QUICK);
@@ -919,7 +892,7 @@ public final class PromisesTest {
         Due.is("21: pass", x.count(13), 6);
         for (int i = 0; i < 4; i++) x.undo();
         x.save(0);
-        type(x, "t0");
+        Houses.type(x, "t0");
         x.fault();
         x.wipe();
         x.next(0);
@@ -929,7 +902,7 @@ public final class PromisesTest {
         Due.is("21: these record nothing", x.count(13), 2);
         x.restore(0);
         Due.is("21: restore", x.count(13), 3);
-        type(x, "t1;t1");
+        Houses.type(x, "t1;t1");
         x.carryOut();
         Due.is("21: a text", x.count(13), 4);
         x.undo();
@@ -944,7 +917,7 @@ public final class PromisesTest {
     }
 
     private static void promise21EachChangeIsUndone() {
-        FuseBoards x = lone(10, QUICK, 5);
+        FuseBoards x = Houses.lone(10, QUICK, 5);
         x.save(1);
         x.set(COOL, 7);
         x.undo();
@@ -969,7 +942,7 @@ public final class PromisesTest {
         x.restore(1);
         x.undo();
         Due.is("21: restore", x.count(0), 4);
-        type(x, "t9;s0");
+        Houses.type(x, "t9;s0");
         x.carryOut();
         x.undo();
         Due.is("21: carryOut, the time", x.count(0), 4);
@@ -999,7 +972,7 @@ public final class PromisesTest {
     }
 
     private static void promise23Restore() {
-        FuseBoards x = lone(2, OLD, 3);
+        FuseBoards x = Houses.lone(2, OLD, 3);
         x.set(AGE, 2);
         x.set(ARC, 4);
         x.pass(1);
@@ -1013,7 +986,7 @@ public final class PromisesTest {
         x.load(0, 9);
         x.board(0, 9, QUICK);
         x.pass(9);
-        type(x, "t1");
+        Houses.type(x, "t1");
         Due.is("23: one board", x.restore(1), 1);
         Due.is("23: time", x.count(0), 1);
         Due.is("23: loads", x.count(2), 1);

@@ -437,8 +437,7 @@ public final class FuseBoards {
         private int nearestOf(int molten) {
             int nearest = 0;
             for (int b = 0; b < row[BOARDS]; b++) {
-                boolean isMolten = (molten >> b & 1) != 0;
-                if (isMolten && (fedThrough(b) & molten) == 1 << b) nearest |= 1 << b;
+                if ((fedThrough(b) & molten) == 1 << b) nearest |= 1 << b;
             }
             return nearest;
         }
