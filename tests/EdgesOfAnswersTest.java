@@ -637,21 +637,21 @@ public final class EdgesOfAnswersTest implements Codes {
     // ---- what only asks
 
     private static void questionsChangeNothing() {
+        int[] asked = {LOW, -1, 0, 1, 2, 3, 4, 5, 7, 8, 10, 11, 12, 13, 14, 20, 21, 9999, 10000, HIGH};
         for (Refused.House made : new Refused.House[] {FuseBoards::new, Houses::busy, Houses::full}) {
             Refused house = new Refused("questions", made);
-            for (int i = -1; i <= 14; i++) {
-                int asked = i;
-                house.asked("of " + i, x -> x.of(4, asked) + x.of(asked, CURRENT));
-                house.asked("ofLoad " + i, x -> x.ofLoad(4, asked) + x.ofLoad(asked, WORKS));
-                house.asked("fed " + i, x -> x.fed(asked));
-                house.asked("blown " + i, x -> x.blown(asked));
-                house.asked("count " + i, x -> x.count(asked));
-                house.asked("next " + i, x -> x.next(asked));
-                house.asked("test " + i, x -> x.test(asked, 9999, ITS_BOARD) + x.test(4, asked, IN_TICKS) + x.test(4, 50, asked));
-                house.asked("unfair " + i, x -> x.unfair(asked));
-                house.asked("ifOpen " + i, x -> x.ifOpen(asked));
-                house.asked("fault", FuseBoards::fault);
+            for (int i : asked) {
+                house.asked("of " + i, x -> x.of(4, i) + x.of(i, CURRENT));
+                house.asked("ofLoad " + i, x -> x.ofLoad(4, i) + x.ofLoad(i, WORKS));
+                house.asked("fed " + i, x -> x.fed(i));
+                house.asked("blown " + i, x -> x.blown(i));
+                house.asked("count " + i, x -> x.count(i));
+                house.asked("next " + i, x -> x.next(i));
+                house.asked("test " + i, x -> x.test(i, 9999, ITS_BOARD) + x.test(4, i, IN_TICKS) + x.test(4, 50, i));
+                house.asked("unfair " + i, x -> x.unfair(i));
+                house.asked("ifOpen " + i, x -> x.ifOpen(i));
             }
+            house.asked("fault", FuseBoards::fault);
         }
     }
 }
