@@ -24,6 +24,7 @@ public final class EdgesOfTicksTest implements Codes {
         heatIs1000000AtMost();
         heatStaysAt1000000AndCoolsFromIt();
         fuseThatBurnsOrIsOpenKeepsItsHeat();
+        tenBoardsKeepWhatIsTheirsApart();
         deadBoardCoolsAsWithoutACurrent();
         justHalfTheRatingDoesNotCreep();
         oneAboveHalfTheRatingCreeps();
@@ -392,6 +393,24 @@ public final class EdgesOfTicksTest implements Codes {
         Due.is("heat: open, and has it", x.of(0, HEAT), 8);
         x.pass(9);
         Due.is("heat: for good", x.of(0, HEAT), 8);
+    }
+
+    /** Each of ten boards is the only one with a current above its rating, or above half of it, once. */
+    private static void tenBoardsKeepWhatIsTheirsApart() {
+        for (int hot = 0; hot < 10; hot++) {
+            FuseBoards x = new FuseBoards();
+            x.set(AGE, 2);
+            for (int b = 0; b < 10; b++) x.board(0, b == hot ? 10 : 100, b == hot ? OLD : SLOW);
+            Houses.lit(x, hot, 20);
+            x.pass(5);
+            for (int b = 0; b < 10; b++) {
+                Due.is("apart: heat of " + b, x.of(b, HEAT), b == hot ? 1500 : 0);
+                Due.is("apart: steps of " + b, x.of(b, STEPS), b == hot ? 2 : 0);
+                Due.is("apart: how is " + b, x.of(b, STATE), WHOLE);
+                Due.is("apart: arc of " + b, x.of(b, ARC_LEFT), 0);
+                Due.is("apart: blown at " + b, x.of(b, BLEW_HERE), 0);
+            }
+        }
     }
 
     private static void deadBoardCoolsAsWithoutACurrent() {

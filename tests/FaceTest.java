@@ -2,14 +2,11 @@ import java.lang.reflect.Constructor;
 import java.lang.reflect.Field;
 import java.lang.reflect.Method;
 import java.lang.reflect.Modifier;
-import java.nio.file.Files;
-import java.nio.file.Path;
 import java.util.HashSet;
 import java.util.Set;
 import java.util.TreeSet;
-import java.util.regex.Pattern;
 
-/** The public face, and the rules of LANGUAGE.md that can be read off the class or its text. */
+/** The public face: the constants, the constructor and the methods of the document, and no others. */
 public final class FaceTest {
     private static final String[] METHODS = {
         "int set(int, int)", "int board(int, int, int)", "int load(int, int)", "int turn(int)",
@@ -24,7 +21,6 @@ public final class FaceTest {
     public static void main(String[] args) throws Exception {
         methodsAreThose();
         constantsAreThose();
-        textKeepsTheRules();
         Due.end();
     }
 
@@ -68,26 +64,5 @@ public final class FaceTest {
                 Modifier.isPublic(f.getModifiers()) && Modifier.isStatic(f.getModifiers()) && Modifier.isFinal(f.getModifiers()));
         }
         Due.isTrue("public constants: " + found, found.equals(new TreeSet<>(Set.of(CONSTANTS))));
-    }
-
-    private static void textKeepsTheRules() throws Exception {
-        String text = Files.readString(Path.of("src/main/java/FuseBoards.java"));
-        String code = text.replaceAll("(?s)/\\*.*?\\*/", " ").replaceAll("//[^\n]*", " ")
-            .replaceAll("\"(\\\\.|[^\"\\\\\n])*\"", " ");
-        String[] ruledOut = {"throw", "throws", "try", "catch", "synchronized", "assert", "package", "protected",
-            "Object", "Random", "System.in", "System.out", "System.err", "currentTimeMillis", "nanoTime", "File", "Thread"};
-        for (String word : ruledOut) {
-            Due.isTrue("no " + word, !Pattern.compile("\\b" + word + "\\b").matcher(code).find());
-        }
-        String withoutArrowsOfSwitches = code.replaceAll("\\b(case [^;{}>]*|default\\s*)->", " ");
-        Due.isTrue("no lambda", !withoutArrowsOfSwitches.contains("->"));
-        Due.isTrue("no method reference", !code.contains("::"));
-        Set<String> imports = Set.of("Arrays", "ArrayList", "List", "Iterator");
-        for (String line : code.split("\n")) {
-            String plain = line.trim();
-            if (!plain.startsWith("import ")) continue;
-            String name = plain.replaceAll("import java\\.util\\.(\\w+);", "$1");
-            Due.isTrue(plain, imports.contains(name));
-        }
     }
 }
